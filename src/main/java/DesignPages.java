@@ -165,15 +165,14 @@ public final class DesignPages {
             return OUTSIDE;
         }
         power.failAfter(pages);
-        if (power.isOff()) {
-            forget();
-        }
         return 1;
     }
 
     public int reopen() {
         power.restore();
-        forget();
+        typedCount = 0;
+        newest = 0;
+        oldest = 1;
         for (int page = 0; page < ROOT_PAGES; page++) {
             if (disk.isRight(page, ROOT) && disk.numberAt(page, VERSION_AT) > newest) {
                 newest = disk.numberAt(page, VERSION_AT);
@@ -372,22 +371,14 @@ public final class DesignPages {
         return finishPage(page);
     }
 
-    /** Gives a page its sum and counts it as written; whether there is power behind that. */
+    /**
+     * Gives a page its sum and counts it as written; whether there is power behind that. What is
+     * not on pages need not be cleared without power: no call tells it before reopen() does that.
+     */
     private boolean finishPage(int page) {
         disk.seal(page);
         power.usePage();
-        if (power.isOff()) {
-            forget();
-            return false;
-        }
-        return true;
-    }
-
-    /** What is not on pages is lost with the power. */
-    private void forget() {
-        typedCount = 0;
-        newest = 0;
-        oldest = 1;
+        return !power.isOff();
     }
 
     /** The bytes of all pages, and when a page is right. */
@@ -416,14 +407,16 @@ public final class DesignPages {
         }
 
         int numberAt(int page, int i) {
-            return at(page, i) << 24 | at(page, i + 1) << 16 | at(page, i + 2) << 8 | at(page, i + 3);
+            int start = page * PAGE_BYTES + i;
+            return bytes[start] << 24 | bytes[start + 1] << 16 | bytes[start + 2] << 8 | bytes[start + 3];
         }
 
         void setNumber(int page, int i, int number) {
-            set(page, i, number >>> 24);
-            set(page, i + 1, number >>> 16 & 255);
-            set(page, i + 2, number >>> 8 & 255);
-            set(page, i + 3, number & 255);
+            int start = page * PAGE_BYTES + i;
+            bytes[start] = number >>> 24;
+            bytes[start + 1] = number >>> 16 & 255;
+            bytes[start + 2] = number >>> 8 & 255;
+            bytes[start + 3] = number & 255;
         }
 
         /** An empty page of a kind; the page may hold what an older version left there. */
@@ -502,13 +495,14 @@ public final class DesignPages {
             marks = new int[amount];
         }
 
+        /** One kind after the other, so that each page is looked at once as each kind it is told as. */
         void walk(Pages disk, int oldest, int newest) {
             Arrays.fill(marks, 0);
             for (int version = oldest; version <= newest; version++) {
-                int root = pageOfRoot(version);
-                if (goesOn(disk, root, ROOT)) {
-                    walkNodes(disk, root);
-                }
+                marks[pageOfRoot(version)] |= markOf(ROOT);
+            }
+            for (int kind = ROOT; kind <= THING; kind++) {
+                lookAtAll(disk, kind);
             }
         }
 
@@ -540,39 +534,32 @@ public final class DesignPages {
             return NONE;
         }
 
-        private void walkNodes(Pages disk, int root) {
-            for (int n = 0; n < NODES; n++) {
-                int node = disk.at(root, NODES_AT + n);
-                if (node != 0 && goesOn(disk, node, NODE)) {
-                    walkThings(disk, node);
+        private static int markOf(int kind) {
+            return 1 << kind;
+        }
+
+        private void lookAtAll(Pages disk, int kind) {
+            for (int page = 0; page < marks.length; page++) {
+                if ((marks[page] & markOf(kind)) == 0) {
+                    continue;
+                }
+                if (!disk.isRight(page, kind)) {
+                    marks[page] |= BAD;
+                } else if (kind == ROOT) {
+                    markTold(disk, page, NODES_AT, NODES, NODE);
+                } else if (kind == NODE) {
+                    markTold(disk, page, THINGS_AT, THINGS, THING);
                 }
             }
         }
 
-        private void walkThings(Pages disk, int node) {
-            for (int t = 0; t < THINGS; t++) {
-                int thing = disk.at(node, THINGS_AT + t);
-                if (thing != 0) {
-                    goesOn(disk, thing, THING);
+        private void markTold(Pages disk, int page, int start, int places, int kind) {
+            for (int i = 0; i < places; i++) {
+                int told = disk.at(page, start + i);
+                if (told != 0) {
+                    marks[told] |= markOf(kind);
                 }
             }
-        }
-
-        /**
-         * Marks a page as reached as a kind; whether it is right and was not yet seen so. Versions
-         * share most of their pages, but one page may be told as a node here and as a thing there.
-         */
-        private boolean goesOn(Pages disk, int page, int kind) {
-            int seen = 1 << kind;
-            if ((marks[page] & seen) != 0) {
-                return false;
-            }
-            marks[page] |= seen;
-            if (disk.isRight(page, kind)) {
-                return true;
-            }
-            marks[page] |= BAD;
-            return false;
         }
     }
 

@@ -42,6 +42,7 @@ public final class PromisesTest {
         byteAt();
         badAt();
         badAtAsKind();
+        bytesBehindThePlaces();
         count();
         countOfDamaged();
         written();
@@ -79,6 +80,12 @@ public final class PromisesTest {
         put(x, 5, 10, 20, 30);
         put(x, 40, 1);
         put(x, 1023);
+        return x;
+    }
+
+    private static DesignPages new32() {
+        DesignPages x = new DesignPages(12);
+        x.put(64);
         return x;
     }
 
@@ -642,6 +649,7 @@ public final class PromisesTest {
         due(8, "last key before it came", x.next(2, 1023), NONE);
         due(8, "version 1", x.next(1, 6), NONE);
         put(x, 37, 1);
+        due(8, "a key of 32 n, from the node before", new32().next(1, 31), 64);
         due(8, "the later place in the first node is no bound", x.next(4, 6), 37);
         x.remove(40);
         due(8, "removed", x.next(5, 38), 1023);
@@ -756,6 +764,17 @@ public final class PromisesTest {
         due(10, "first", x.put(0), 1);
         x.poke(2, 0, 1);
         due(10, "an older time's root", x.reopen(), 2);
+
+        DesignPages y = three();
+        y.drop(2);
+        due(10, "oldest 3", y.count(1), 3);
+        for (int page = 1; page <= 3; page++) {
+            y.poke(page, 0, 1);
+        }
+        due(10, "no root is right any more", y.reopen(), 0);
+        due(10, "oldest is 1 anew", y.count(1), 1);
+        due(10, "version", y.put(0), 1);
+        due(10, "its oldest", y.byteAt(1, 8), 1);
     }
 
     private static void reopenLooksAtRoots() {
@@ -849,6 +868,11 @@ public final class PromisesTest {
         x.crash(0);
         due(13, "DOWN", x.badAt(), DOWN);
 
+        DesignPages zero = openedAt(20, 8, 8);
+        due(13, "page 0 is right", zero.badAt(), NONE);
+        zero.poke(0, 20, 1);
+        due(13, "page 0", zero.badAt(), 0);
+
         DesignPages y = new DesignPages(20);
         put(y, 1, 1);
         put(y, 1, 2);
@@ -889,6 +913,27 @@ public final class PromisesTest {
         due(13, "its thing is reached", z.count(2), 8);
         z.poke(14, 9, 9);
         due(13, "12 is the least", z.badAt(), 12);
+    }
+
+    /** Bytes behind the places of a root or node tell nothing, whatever they are. */
+    private static void bytesBehindThePlaces() {
+        for (int b = 1; b < 256; b += 127) {
+            DesignPages x = new DesignPages(20);
+            put(x, 5, 1);
+            Image.force(x, 9, Image.with(Image.node(0, 5, 8), 34, b));
+            Image.force(x, 1, Image.with(Image.root(1, 1, 0, 9), 41, b));
+            due(13, "nothing is bad with " + b, x.badAt(), NONE);
+            due(14, "free with " + b, x.count(2), 10);
+            due(14, "keys with " + b, x.count(3), 1);
+            due(8, "of the node with " + b, x.next(1, 6), NONE);
+            due(8, "of the last node with " + b, x.next(1, 1023), NONE);
+        }
+        DesignPages y = new DesignPages(20);
+        put(y, 5, 1);
+        Image.force(y, 9, Image.with(Image.node(0, 5, 8), 34, 10));
+        Image.force(y, 1, Image.with(Image.root(1, 1, 0, 9), 41, 11));
+        due(13, "pages that are there are not told so", y.badAt(), NONE);
+        due(14, "nor reached", y.count(2), 10);
     }
 
     // ---- promise 14
