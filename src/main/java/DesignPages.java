@@ -36,8 +36,9 @@ public final class DesignPages {
 
     private static final int ROOT_PAGES = 8;
     private static final int LAST_VERSION = 1000000;
-    private static final int NODES = 32;
-    private static final int THINGS = 32;
+    private static final int PLACES = 32;
+    private static final int NODES = PLACES;
+    private static final int THINGS = PLACES;
     private static final int KEYS = NODES * THINGS;
     private static final int MOST_TYPED = 32;
     private static final int MOST_CRASH = 1000;
@@ -46,6 +47,11 @@ public final class DesignPages {
     private final Reach reach;
     private final Power power;
     private final int[] typed;
+    /**
+     * The pages that the root or node to be written tells. Nothing but these is taken over from the
+     * newest version's pages: the rest may have been changed by poke(), with a sum that fits.
+     */
+    private final int[] places;
     private int typedCount;
     private int newest;
     private int oldest;
@@ -56,6 +62,7 @@ public final class DesignPages {
         reach = new Reach(amount);
         power = new Power();
         typed = new int[MOST_TYPED];
+        places = new int[PLACES];
         typedCount = 0;
         newest = 0;
         oldest = 1;
@@ -112,9 +119,8 @@ public final class DesignPages {
         if (refusal != NO_REFUSAL) {
             return refusal;
         }
-        int root = pageOfRoot(newest);
-        disk.setNumber(root, OLDEST_AT, version + 1);
-        if (!finishPage(root)) {
+        takePlacesOfNewestRoot();
+        if (!writeRoot(newest, version + 1)) {
             return CUT;
         }
         oldest = version + 1;
@@ -337,7 +343,9 @@ public final class DesignPages {
         }
         int version = newest + 1;
         int oldestThen = Math.max(oldest, version - (ROOT_PAGES - 1));
-        if (!writeRoot(version, oldestThen, key / THINGS, nodePage)) {
+        takePlacesOfNewestRoot();
+        places[key / THINGS] = nodePage;
+        if (!writeRoot(version, oldestThen)) {
             return CUT;
         }
         newest = version;
@@ -347,28 +355,41 @@ public final class DesignPages {
 
     private boolean writeNode(int page, int key, int thingPage) {
         int n = key / THINGS;
-        int before = newest == 0 ? 0 : disk.at(pageOfRoot(newest), NODES_AT + n);
-        if (before == 0) {
-            disk.begin(page, NODE);
-            disk.set(page, NODE_NUMBER_AT, n);
-        } else {
-            disk.copy(before, page);
-        }
-        disk.set(page, THINGS_AT + key % THINGS, thingPage);
+        takePlacesOfNode(pageOfNewestNode(n));
+        places[key % THINGS] = thingPage;
+        disk.begin(page, NODE);
+        disk.set(page, NODE_NUMBER_AT, n);
+        disk.setPlaces(page, THINGS_AT, places);
         return finishPage(page);
     }
 
-    private boolean writeRoot(int version, int oldestThen, int n, int nodePage) {
+    private boolean writeRoot(int version, int oldestThen) {
         int page = pageOfRoot(version);
-        if (newest == 0) {
-            disk.begin(page, ROOT);
-        } else {
-            disk.copy(pageOfRoot(newest), page);
-        }
+        disk.begin(page, ROOT);
         disk.setNumber(page, VERSION_AT, version);
         disk.setNumber(page, OLDEST_AT, oldestThen);
-        disk.set(page, NODES_AT + n, nodePage);
+        disk.setPlaces(page, NODES_AT, places);
         return finishPage(page);
+    }
+
+    private int pageOfNewestNode(int n) {
+        return newest == 0 ? 0 : disk.at(pageOfRoot(newest), NODES_AT + n);
+    }
+
+    private void takePlacesOfNode(int page) {
+        if (page == 0) {
+            Arrays.fill(places, 0);
+        } else {
+            disk.takePlaces(page, THINGS_AT, places);
+        }
+    }
+
+    private void takePlacesOfNewestRoot() {
+        if (newest == 0) {
+            Arrays.fill(places, 0);
+        } else {
+            disk.takePlaces(pageOfRoot(newest), NODES_AT, places);
+        }
     }
 
     /**
@@ -426,8 +447,12 @@ public final class DesignPages {
             set(page, 0, kind);
         }
 
-        void copy(int from, int to) {
-            System.arraycopy(bytes, from * PAGE_BYTES, bytes, to * PAGE_BYTES, PAGE_BYTES);
+        void takePlaces(int page, int start, int[] row) {
+            System.arraycopy(bytes, page * PAGE_BYTES + start, row, 0, PLACES);
+        }
+
+        void setPlaces(int page, int start, int[] row) {
+            System.arraycopy(row, 0, bytes, page * PAGE_BYTES + start, PLACES);
         }
 
         void seal(int page) {

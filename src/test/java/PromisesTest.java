@@ -22,14 +22,17 @@ public final class PromisesTest {
         putIsCut();
         putMovesOldest();
         putUsesFreedPages();
+        putAfterChangedBytes();
         remove();
         removeRefusals();
         removeWithoutPages();
         removeAtTheLastVersion();
         removeIsCut();
+        removeAfterChangedBytes();
         drop();
         dropRefusals();
         dropIsCut();
+        dropAfterChangedBytes();
         length();
         lengthOfDamaged();
         find();
@@ -94,6 +97,26 @@ public final class PromisesTest {
         DesignPages x = new DesignPages(pages);
         Image.force(x, version % 8, Image.root(version, oldest));
         x.reopen();
+        return x;
+    }
+
+    /**
+     * Version 1 with key 77 of node 2, the node on page 9; then all that a right node and root may
+     * have otherwise is changed, with sums that fit: the number, the VERSION, the bytes not told.
+     */
+    private static DesignPages changedButRight(int number) {
+        DesignPages x = new DesignPages(20);
+        put(x, 77, 5, 6);
+        int[] node = Image.node(number, 13, 8);
+        for (int i = 34; i < 44; i++) {
+            node[i] = 10 + i;
+        }
+        Image.force(x, 9, Image.sealed(node));
+        int[] root = Image.root(9, 2, 2, 9);
+        for (int i = 41; i < 44; i++) {
+            root[i] = 20 + i;
+        }
+        Image.force(x, 1, Image.sealed(root));
         return x;
     }
 
@@ -356,6 +379,28 @@ public final class PromisesTest {
         Image.due("promise 3: first root", z, 1, Image.root(1, 1, 0, 9));
     }
 
+    private static void putAfterChangedBytes() {
+        for (int number : new int[] {0, 1, 3, 31, 32, 255}) {
+            DesignPages x = changedButRight(number);
+            due(3, "nothing is bad, number " + number, x.badAt(), NONE);
+            due(3, "the same key, number " + number, put(x, 77, 9), 2);
+            Image.due("promise 3: thing, number " + number, x, 10, Image.thing(77, 9));
+            Image.due("promise 3: node, number " + number, x, 11, Image.node(2, 13, 10));
+            Image.due("promise 3: root, number " + number, x, 2, Image.root(2, 1, 2, 11));
+            due(3, "what was there stays, number " + number, x.byteAt(9, 1), number);
+
+            DesignPages y = changedButRight(number);
+            due(3, "another key of the node, number " + number, put(y, 95), 2);
+            Image.due("promise 3: node of two, number " + number, y, 11, Image.node(2, 13, 8, 31, 10));
+            Image.due("promise 3: its root, number " + number, y, 2, Image.root(2, 1, 2, 11));
+
+            DesignPages z = changedButRight(number);
+            due(3, "a key of another node, number " + number, put(z, 1000), 2);
+            Image.due("promise 3: node of its own, number " + number, z, 11, Image.node(31, 8, 10));
+            Image.due("promise 3: root of two, number " + number, z, 2, Image.root(2, 1, 2, 9, 31, 11));
+        }
+    }
+
     // ---- promise 4
 
     private static void remove() {
@@ -458,6 +503,17 @@ public final class PromisesTest {
         }
     }
 
+    private static void removeAfterChangedBytes() {
+        for (int number : new int[] {0, 1, 3, 31, 32, 255}) {
+            DesignPages x = changedButRight(number);
+            due(4, "a key without, number " + number, x.remove(78), 0);
+            due(4, "the key, number " + number, x.remove(77), 2);
+            Image.due("promise 4: node, number " + number, x, 10, Image.node(2));
+            Image.due("promise 4: root, number " + number, x, 2, Image.root(2, 1, 2, 10));
+            due(4, "what was there stays, number " + number, x.byteAt(9, 1), number);
+        }
+    }
+
     // ---- promise 5
 
     private static void drop() {
@@ -535,6 +591,23 @@ public final class PromisesTest {
         x.crash(2);
         due(5, "not yet", x.drop(2), 1);
         due(5, "then", x.put(1), CUT);
+    }
+
+    private static void dropAfterChangedBytes() {
+        DesignPages x = new DesignPages(20);
+        put(x, 5, 1);
+        put(x, 40, 2);
+        int[] root = Image.root(10, 3, 0, 9, 1, 11);
+        for (int i = 41; i < 44; i++) {
+            root[i] = 20 + i;
+        }
+        Image.force(x, 2, Image.sealed(root));
+        due(5, "nothing is bad", x.badAt(), NONE);
+        due(5, "the root bears its version", x.drop(1), 1);
+        Image.due("promise 5: root", x, 2, Image.root(2, 2, 0, 9, 1, 11));
+        due(5, "nothing is bad then", x.badAt(), NONE);
+        due(5, "reopen", x.reopen(), 2);
+        due(5, "oldest", x.count(1), 2);
     }
 
     // ---- promise 6
