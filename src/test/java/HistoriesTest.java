@@ -76,7 +76,9 @@ public final class HistoriesTest {
         } else if (pokes) {
             poke();
         }
-        lookAround();
+        if (calls < CALLS) {
+            lookAround();
+        }
     }
 
     private void ask(int which) {

@@ -62,6 +62,15 @@ final class Image {
         }
     }
 
+    /** So too for a page of zeros, without a look at it first (as many calls as bytes are not 0). */
+    static void forceEmpty(DesignPages x, int page, int[] image) {
+        for (int i = 0; i < BYTES; i++) {
+            if (image[i] != 0) {
+                x.poke(page, i, image[i]);
+            }
+        }
+    }
+
     static void due(String what, DesignPages x, int page, int[] image) {
         for (int i = 0; i < BYTES; i++) {
             Check.due(what + ", page " + page + " byte " + i, x.byteAt(page, i), image[i]);

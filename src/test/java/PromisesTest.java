@@ -8,7 +8,7 @@ public final class PromisesTest {
     private static final int FULL = DesignPages.FULL;
     private static final int MIN = Integer.MIN_VALUE;
     private static final int MAX = Integer.MAX_VALUE;
-    private static final int LAST = 1000000;
+    private static final int LAST = Stores.LAST_VERSION;
 
     public static void main(String[] args) {
         newObject();
@@ -60,63 +60,9 @@ public final class PromisesTest {
         Check.due("promise " + promise + ": " + what, got, want);
     }
 
-    private static void typeAll(DesignPages x, int... text) {
-        for (int b : text) {
-            x.type(b);
-        }
-    }
-
-    private static int put(DesignPages x, int key, int... text) {
-        typeAll(x, text);
-        return x.put(key);
-    }
-
-    private static DesignPages down(int pages) {
-        DesignPages x = new DesignPages(pages);
-        x.crash(0);
-        return x;
-    }
-
-    /** Versions 1 to 3 with key 5 (3 bytes), key 40, key 1023 on pages 8 to 13. */
-    private static DesignPages three() {
-        DesignPages x = new DesignPages(20);
-        put(x, 5, 10, 20, 30);
-        put(x, 40, 1);
-        put(x, 1023);
-        return x;
-    }
-
     private static DesignPages new32() {
         DesignPages x = new DesignPages(12);
         x.put(64);
-        return x;
-    }
-
-    /** A store that was opened at a forged root without things. */
-    private static DesignPages openedAt(int pages, int version, int oldest) {
-        DesignPages x = new DesignPages(pages);
-        Image.force(x, version % 8, Image.root(version, oldest));
-        x.reopen();
-        return x;
-    }
-
-    /**
-     * Version 1 with key 77 of node 2, the node on page 9; then all that a right node and root may
-     * have otherwise is changed, with sums that fit: the number, the VERSION, the bytes not told.
-     */
-    private static DesignPages changedButRight(int number) {
-        DesignPages x = new DesignPages(20);
-        put(x, 77, 5, 6);
-        int[] node = Image.node(number, 13, 8);
-        for (int i = 34; i < 44; i++) {
-            node[i] = 10 + i;
-        }
-        Image.force(x, 9, Image.sealed(node));
-        int[] root = Image.root(9, 2, 2, 9);
-        for (int i = 41; i < 44; i++) {
-            root[i] = 20 + i;
-        }
-        Image.force(x, 1, Image.sealed(root));
         return x;
     }
 
@@ -144,7 +90,7 @@ public final class PromisesTest {
         }
         DesignPages one = new DesignPages(12);
         DesignPages other = new DesignPages(12);
-        put(one, 1, 1);
+        Stores.put(one, 1, 1);
         due(1, "objects are apart", other.count(0) + other.written() + other.byteAt(8, 0), 0);
     }
 
@@ -188,23 +134,23 @@ public final class PromisesTest {
 
     private static void putWritesPages() {
         DesignPages x = new DesignPages(20);
-        due(3, "first", put(x, 770, 7, 0, 255), 1);
+        due(3, "first", Stores.put(x, 770, 7, 0, 255), 1);
         Image.due("promise 3: thing", x, 8, Image.thing(770, 7, 0, 255));
         Image.due("promise 3: node", x, 9, Image.node(24, 2, 8));
         Image.due("promise 3: root", x, 1, Image.root(1, 1, 24, 9));
-        due(3, "second", put(x, 799, 1), 2);
+        due(3, "second", Stores.put(x, 799, 1), 2);
         Image.due("promise 3: 2nd thing", x, 10, Image.thing(799, 1));
         Image.due("promise 3: 2nd node has both", x, 11, Image.node(24, 2, 8, 31, 10));
         Image.due("promise 3: 2nd root", x, 2, Image.root(2, 1, 24, 11));
-        due(3, "third", put(x, 0), 3);
+        due(3, "third", Stores.put(x, 0), 3);
         Image.due("promise 3: 3rd root", x, 3, Image.root(3, 1, 24, 11, 0, 13));
         due(3, "written", x.written(), 9);
         due(3, "newest", x.count(0), 3);
         due(3, "oldest", x.count(1), 1);
 
         DesignPages y = new DesignPages(20);
-        put(y, 1023, 4);
-        put(y, 1023, 5, 6);
+        Stores.put(y, 1023, 4);
+        Stores.put(y, 1023, 5, 6);
         Image.due("promise 3: thing anew", y, 10, Image.thing(1023, 5, 6));
         Image.due("promise 3: node anew", y, 11, Image.node(31, 31, 10));
         Image.due("promise 3: old thing stays", y, 8, Image.thing(1023, 4));
@@ -216,7 +162,7 @@ public final class PromisesTest {
 
     private static void putUsesTypedBytes() {
         DesignPages x = new DesignPages(40);
-        typeAll(x, 1, 2, 3);
+        Stores.typeAll(x, 1, 2, 3);
         due(3, "wrong key", x.put(1024), OUTSIDE);
         due(3, "a refusal leaves the bytes", x.count(4), 3);
         due(3, "put", x.put(5), 1);
@@ -234,8 +180,8 @@ public final class PromisesTest {
             due(3, "key " + key, x.put(key), OUTSIDE);
         }
         due(3, "nothing was written", x.written(), 0);
-        put(x, 0, 1);
-        put(x, 1023, 2);
+        Stores.put(x, 0, 1);
+        Stores.put(x, 1023, 2);
         due(3, "OUTSIDE before FULL", x.put(1024), OUTSIDE);
         due(3, "full", x.put(1), FULL);
         x.type(9);
@@ -249,7 +195,7 @@ public final class PromisesTest {
         due(3, "DOWN before OUTSIDE", x.put(-1), DOWN);
         due(3, "DOWN before DAMAGED", x.put(1), DOWN);
 
-        DesignPages y = three();
+        DesignPages y = Stores.three();
         y.poke(8, 47, 128);
         due(3, "any kept version's thing", y.put(1), DAMAGED);
         y.poke(8, 47, 128);
@@ -266,7 +212,7 @@ public final class PromisesTest {
     }
 
     private static void putAtTheLastVersion() {
-        DesignPages x = openedAt(20, LAST - 1, LAST - 1);
+        DesignPages x = Stores.openedAt(20, LAST - 1, LAST - 1);
         due(3, "version 1000000", x.put(1), LAST);
         Image.due("promise 3: last root", x, 0, Image.root(LAST, LAST - 1, 0, 9));
         x.type(1);
@@ -278,8 +224,8 @@ public final class PromisesTest {
 
     private static void putWithoutPages() {
         DesignPages x = new DesignPages(13);
-        put(x, 0, 1);
-        put(x, 1, 2);
+        Stores.put(x, 0, 1);
+        Stores.put(x, 1, 2);
         due(3, "one is free", x.count(2), 1);
         x.type(3);
         due(3, "one is not enough", x.put(2), FULL);
@@ -299,10 +245,10 @@ public final class PromisesTest {
     private static void putIsCut() {
         for (int pages = 1; pages <= 3; pages++) {
             DesignPages x = new DesignPages(20);
-            put(x, 33, 1);
+            Stores.put(x, 33, 1);
             x.crash(pages);
             String cut = "cut at " + pages + ", ";
-            due(3, cut + "put", put(x, 34, 2), CUT);
+            due(3, cut + "put", Stores.put(x, 34, 2), CUT);
             due(3, cut + "written", x.written(), 3 + pages);
             due(3, cut + "thing", x.byteAt(10, 0), 3);
             due(3, cut + "node", x.byteAt(11, 0), pages >= 2 ? 2 : 0);
@@ -315,7 +261,7 @@ public final class PromisesTest {
             due(3, cut + "new", x.length(2, 34), pages >= 3 ? 1 : OUTSIDE);
             due(3, cut + "free", x.count(2), pages >= 3 ? 8 : 10);
             due(3, cut + "badAt", x.badAt(), NONE);
-            due(3, cut + "put anew", put(x, 34, 9, 9), pages >= 3 ? 3 : 2);
+            due(3, cut + "put anew", Stores.put(x, 34, 9, 9), pages >= 3 ? 3 : 2);
         }
         DesignPages y = new DesignPages(20);
         y.crash(4);
@@ -326,7 +272,7 @@ public final class PromisesTest {
     private static void putMovesOldest() {
         DesignPages x = new DesignPages(60);
         for (int v = 1; v <= 20; v++) {
-            due(3, "version", put(x, v, v), v);
+            due(3, "version", Stores.put(x, v, v), v);
             due(3, "oldest of " + v, x.count(1), Math.max(1, v - 7));
         }
         due(3, "12 is not kept", x.length(12, 1), OUTSIDE);
@@ -341,7 +287,7 @@ public final class PromisesTest {
 
         DesignPages y = new DesignPages(60);
         for (int v = 1; v <= 8; v++) {
-            put(y, v, v);
+            Stores.put(y, v, v);
         }
         y.crash(2);
         due(3, "cut before root 9", y.put(9), CUT);
@@ -357,16 +303,16 @@ public final class PromisesTest {
 
     private static void putUsesFreedPages() {
         DesignPages x = new DesignPages(20);
-        put(x, 0, 1, 2, 3, 4, 5, 6, 7, 8);
-        put(x, 0, 9);
+        Stores.put(x, 0, 1, 2, 3, 4, 5, 6, 7, 8);
+        Stores.put(x, 0, 9);
         x.drop(1);
         due(3, "8 and 9 are free", x.count(2), 10);
-        due(3, "put", put(x, 64, 5), 3);
+        due(3, "put", Stores.put(x, 64, 5), 3);
         Image.due("promise 3: thing on a used page", x, 8, Image.thing(64, 5));
         Image.due("promise 3: node on a used page", x, 9, Image.node(2, 0, 8));
 
         // A root's page held an older root, one that told more nodes than the new one.
-        DesignPages y = openedAt(20, 7, 7);
+        DesignPages y = Stores.openedAt(20, 7, 7);
         Image.force(y, 0, Image.root(800, 799, 3, 12, 4, 13));
         due(3, "put", y.put(1), 8);
         Image.due("promise 3: root on a used page", y, 0, Image.root(8, 7, 0, 9));
@@ -381,21 +327,21 @@ public final class PromisesTest {
 
     private static void putAfterChangedBytes() {
         for (int number : new int[] {0, 1, 3, 31, 32, 255}) {
-            DesignPages x = changedButRight(number);
+            DesignPages x = Stores.changedButRight(number);
             due(3, "nothing is bad, number " + number, x.badAt(), NONE);
-            due(3, "the same key, number " + number, put(x, 77, 9), 2);
+            due(3, "the same key, number " + number, Stores.put(x, 77, 9), 2);
             Image.due("promise 3: thing, number " + number, x, 10, Image.thing(77, 9));
             Image.due("promise 3: node, number " + number, x, 11, Image.node(2, 13, 10));
             Image.due("promise 3: root, number " + number, x, 2, Image.root(2, 1, 2, 11));
             due(3, "what was there stays, number " + number, x.byteAt(9, 1), number);
 
-            DesignPages y = changedButRight(number);
-            due(3, "another key of the node, number " + number, put(y, 95), 2);
+            DesignPages y = Stores.changedButRight(number);
+            due(3, "another key of the node, number " + number, Stores.put(y, 95), 2);
             Image.due("promise 3: node of two, number " + number, y, 11, Image.node(2, 13, 8, 31, 10));
             Image.due("promise 3: its root, number " + number, y, 2, Image.root(2, 1, 2, 11));
 
-            DesignPages z = changedButRight(number);
-            due(3, "a key of another node, number " + number, put(z, 1000), 2);
+            DesignPages z = Stores.changedButRight(number);
+            due(3, "a key of another node, number " + number, Stores.put(z, 1000), 2);
             Image.due("promise 3: node of its own, number " + number, z, 11, Image.node(31, 8, 10));
             Image.due("promise 3: root of two, number " + number, z, 2, Image.root(2, 1, 2, 9, 31, 11));
         }
@@ -407,8 +353,8 @@ public final class PromisesTest {
         DesignPages x = new DesignPages(30);
         due(4, "without versions", x.remove(5), 0);
         due(4, "without versions, last key", x.remove(1023), 0);
-        put(x, 5, 1);
-        put(x, 6);
+        Stores.put(x, 5, 1);
+        Stores.put(x, 6);
         x.type(7);
         due(4, "another thing of the node", x.remove(7), 0);
         due(4, "another node", x.remove(37), 0);
@@ -431,7 +377,7 @@ public final class PromisesTest {
 
         DesignPages y = new DesignPages(30);
         for (int v = 1; v <= 7; v++) {
-            put(y, v);
+            Stores.put(y, v);
         }
         due(4, "version 8", y.remove(1), 8);
         due(4, "oldest 1", y.count(1), 1);
@@ -440,7 +386,7 @@ public final class PromisesTest {
     }
 
     private static void removeRefusals() {
-        DesignPages x = three();
+        DesignPages x = Stores.three();
         int[] wrong = {-1, 1024, MIN, MAX};
         for (int key : wrong) {
             due(4, "key " + key, x.remove(key), OUTSIDE);
@@ -454,13 +400,13 @@ public final class PromisesTest {
         due(4, "DOWN before OUTSIDE", x.remove(1024), DOWN);
         due(4, "DOWN", x.remove(5), DOWN);
         due(4, "DOWN before 0", x.remove(6), DOWN);
-        due(4, "DOWN without versions", down(12).remove(6), DOWN);
+        due(4, "DOWN without versions", Stores.down(12).remove(6), DOWN);
     }
 
     private static void removeWithoutPages() {
         DesignPages x = new DesignPages(13);
-        put(x, 0, 1);
-        put(x, 1, 2);
+        Stores.put(x, 0, 1);
+        Stores.put(x, 1, 2);
         due(4, "one is free and enough", x.remove(0), 3);
         Image.due("promise 4: on the free page", x, 12, Image.node(0, 1, 10));
         due(4, "none is free", x.count(2), 0);
@@ -473,11 +419,11 @@ public final class PromisesTest {
     }
 
     private static void removeAtTheLastVersion() {
-        DesignPages x = openedAt(20, LAST - 2, LAST - 2);
-        put(x, 1, 5);
+        DesignPages x = Stores.openedAt(20, LAST - 2, LAST - 2);
+        Stores.put(x, 1, 5);
         due(4, "version 1000000", x.remove(1), LAST);
         due(4, "0 before FULL", x.remove(1), 0);
-        DesignPages y = openedAt(20, LAST - 1, LAST - 1);
+        DesignPages y = Stores.openedAt(20, LAST - 1, LAST - 1);
         due(4, "put", y.put(1), LAST);
         due(4, "version 1000001", y.remove(1), FULL);
         due(4, "newest stays", y.count(0), LAST);
@@ -487,7 +433,7 @@ public final class PromisesTest {
     private static void removeIsCut() {
         for (int pages = 1; pages <= 2; pages++) {
             DesignPages x = new DesignPages(20);
-            put(x, 33, 1);
+            Stores.put(x, 33, 1);
             x.type(4);
             x.crash(pages);
             String cut = "cut at " + pages + ", ";
@@ -505,7 +451,7 @@ public final class PromisesTest {
 
     private static void removeAfterChangedBytes() {
         for (int number : new int[] {0, 1, 3, 31, 32, 255}) {
-            DesignPages x = changedButRight(number);
+            DesignPages x = Stores.changedButRight(number);
             due(4, "a key without, number " + number, x.remove(78), 0);
             due(4, "the key, number " + number, x.remove(77), 2);
             Image.due("promise 4: node, number " + number, x, 10, Image.node(2));
@@ -518,10 +464,10 @@ public final class PromisesTest {
 
     private static void drop() {
         DesignPages x = new DesignPages(40);
-        put(x, 5, 1);
-        put(x, 5, 2);
-        put(x, 5, 3);
-        put(x, 70, 4);
+        Stores.put(x, 5, 1);
+        Stores.put(x, 5, 2);
+        Stores.put(x, 5, 3);
+        Stores.put(x, 70, 4);
         x.type(8);
         due(5, "up to 2", x.drop(2), 2);
         due(5, "one page was written", x.written(), 13);
@@ -545,7 +491,7 @@ public final class PromisesTest {
         DesignPages n = new DesignPages(12);
         due(5, "no versions: 0", n.drop(0), OUTSIDE);
         due(5, "no versions: 1", n.drop(1), OUTSIDE);
-        DesignPages x = three();
+        DesignPages x = Stores.three();
         int[] wrong = {0, 3, 4, -1, MIN, MAX};
         for (int version : wrong) {
             due(5, "version " + version, x.drop(version), OUTSIDE);
@@ -562,24 +508,24 @@ public final class PromisesTest {
         due(5, "DOWN", x.drop(2), DOWN);
 
         DesignPages y = new DesignPages(20);
-        put(y, 5, 1);
-        put(y, 5, 2);
+        Stores.put(y, 5, 1);
+        Stores.put(y, 5, 2);
         y.poke(8, 4, 1);
         due(5, "damage in version 1 alone", y.drop(1), DAMAGED);
         y.poke(8, 4, 1);
         due(5, "mended", y.drop(1), 1);
 
         DesignPages z = new DesignPages(12);
-        put(z, 0);
-        put(z, 0);
+        Stores.put(z, 0);
+        Stores.put(z, 0);
         due(5, "no free page is needed", z.drop(1), 1);
-        DesignPages last = openedAt(20, LAST - 1, LAST - 1);
+        DesignPages last = Stores.openedAt(20, LAST - 1, LAST - 1);
         last.put(1);
         due(5, "at version 1000000", last.drop(LAST - 1), 1);
     }
 
     private static void dropIsCut() {
-        DesignPages x = three();
+        DesignPages x = Stores.three();
         x.type(1);
         x.crash(1);
         due(5, "cut", x.drop(1), CUT);
@@ -595,8 +541,8 @@ public final class PromisesTest {
 
     private static void dropAfterChangedBytes() {
         DesignPages x = new DesignPages(20);
-        put(x, 5, 1);
-        put(x, 40, 2);
+        Stores.put(x, 5, 1);
+        Stores.put(x, 40, 2);
         int[] root = Image.root(10, 3, 0, 9, 1, 11);
         for (int i = 41; i < 44; i++) {
             root[i] = 20 + i;
@@ -613,7 +559,7 @@ public final class PromisesTest {
     // ---- promise 6
 
     private static void length() {
-        DesignPages x = three();
+        DesignPages x = Stores.three();
         due(6, "3 bytes", x.length(1, 5), 3);
         due(6, "in a later version", x.length(3, 5), 3);
         due(6, "1 byte", x.length(2, 40), 1);
@@ -621,7 +567,7 @@ public final class PromisesTest {
         due(6, "nothing yet", x.length(2, 1023), NONE);
         due(6, "no thing", x.length(3, 4), NONE);
         due(6, "no node", x.length(3, 500), NONE);
-        due(6, "32 bytes", put(x, 0, new int[32]), 4);
+        due(6, "32 bytes", Stores.put(x, 0, new int[32]), 4);
         due(6, "32 bytes", x.length(4, 0), 32);
         int[] versions = {0, 5, -1, MIN, MAX};
         for (int version : versions) {
@@ -637,7 +583,7 @@ public final class PromisesTest {
     }
 
     private static void lengthOfDamaged() {
-        DesignPages x = three();
+        DesignPages x = Stores.three();
         x.poke(8, 10, 1);
         due(6, "its thing", x.length(3, 5), DAMAGED);
         due(6, "another's thing", x.length(3, 40), 1);
@@ -662,7 +608,7 @@ public final class PromisesTest {
         due(6, "mended", x.length(3, 5), 3);
 
         // What stands where is looked at by its kind alone, not by its key or number.
-        DesignPages y = three();
+        DesignPages y = Stores.three();
         Image.force(y, 8, Image.thing(6, 1, 2));
         due(6, "a thing of another key", y.length(3, 5), 2);
         Image.force(y, 9, Image.node(7, 5, 8));
@@ -673,7 +619,7 @@ public final class PromisesTest {
     // ---- promise 7
 
     private static void find() {
-        DesignPages x = three();
+        DesignPages x = Stores.three();
         due(7, "byte 0", x.find(1, 5, 0), 10);
         due(7, "byte 1", x.find(2, 5, 1), 20);
         due(7, "byte 2", x.find(3, 5, 2), 30);
@@ -709,7 +655,7 @@ public final class PromisesTest {
     // ---- promise 8
 
     private static void next() {
-        DesignPages x = three();
+        DesignPages x = Stores.three();
         due(8, "from 0", x.next(3, 0), 5);
         due(8, "from itself", x.next(3, 5), 5);
         due(8, "into another node", x.next(3, 6), 40);
@@ -721,7 +667,7 @@ public final class PromisesTest {
         due(8, "before it came", x.next(2, 41), NONE);
         due(8, "last key before it came", x.next(2, 1023), NONE);
         due(8, "version 1", x.next(1, 6), NONE);
-        put(x, 37, 1);
+        Stores.put(x, 37, 1);
         due(8, "a key of 32 n, from the node before", new32().next(1, 31), 64);
         due(8, "the later place in the first node is no bound", x.next(4, 6), 37);
         x.remove(40);
@@ -740,7 +686,7 @@ public final class PromisesTest {
     }
 
     private static void nextOfDamaged() {
-        DesignPages x = three();
+        DesignPages x = Stores.three();
         x.poke(11, 20, 1);
         due(8, "found before the damaged node", x.next(3, 0), 5);
         due(8, "the damaged node is on the way", x.next(3, 6), DAMAGED);
@@ -807,8 +753,8 @@ public final class PromisesTest {
         DesignPages x = new DesignPages(20);
         due(10, "without a root", x.reopen(), 0);
         due(10, "oldest 1", x.count(1), 1);
-        put(x, 5, 1);
-        put(x, 5, 2);
+        Stores.put(x, 5, 1);
+        Stores.put(x, 5, 2);
         x.type(1);
         x.crash(1);
         due(10, "while it is not down", x.reopen(), 2);
@@ -825,7 +771,7 @@ public final class PromisesTest {
         due(10, "oldest as 2 tells", x.count(1), 1);
         due(10, "its things", x.find(2, 5, 0), 2);
         due(10, "3's pages are free", x.count(2), 8);
-        due(10, "3 anew", put(x, 7, 3), 3);
+        due(10, "3 anew", Stores.put(x, 7, 3), 3);
         due(10, "of 2", x.length(3, 5), 1);
         x.poke(1, 0, 1);
         x.poke(2, 0, 1);
@@ -838,7 +784,7 @@ public final class PromisesTest {
         x.poke(2, 0, 1);
         due(10, "an older time's root", x.reopen(), 2);
 
-        DesignPages y = three();
+        DesignPages y = Stores.three();
         y.drop(2);
         due(10, "oldest 3", y.count(1), 3);
         for (int page = 1; page <= 3; page++) {
@@ -898,7 +844,7 @@ public final class PromisesTest {
 
     private static void byteAt() {
         DesignPages x = new DesignPages(15);
-        put(x, 1, 9, 8);
+        Stores.put(x, 1, 9, 8);
         due(12, "a byte", x.byteAt(8, 4), 9);
         due(12, "next byte", x.byteAt(8, 5), 8);
         due(12, "first", x.byteAt(0, 0), 0);
@@ -918,7 +864,7 @@ public final class PromisesTest {
     // ---- promise 13
 
     private static void badAt() {
-        DesignPages x = three();
+        DesignPages x = Stores.three();
         due(13, "none", x.badAt(), NONE);
         int[] reached = {1, 2, 3, 8, 9, 10, 11, 12, 13};
         for (int page : reached) {
@@ -941,14 +887,14 @@ public final class PromisesTest {
         x.crash(0);
         due(13, "DOWN", x.badAt(), DOWN);
 
-        DesignPages zero = openedAt(20, 8, 8);
+        DesignPages zero = Stores.openedAt(20, 8, 8);
         due(13, "page 0 is right", zero.badAt(), NONE);
         zero.poke(0, 20, 1);
         due(13, "page 0", zero.badAt(), 0);
 
         DesignPages y = new DesignPages(20);
-        put(y, 1, 1);
-        put(y, 1, 2);
+        Stores.put(y, 1, 1);
+        Stores.put(y, 1, 2);
         y.poke(8, 9, 1);
         due(13, "an old version's thing", y.badAt(), 8);
         y.poke(9, 9, 1);
@@ -961,7 +907,7 @@ public final class PromisesTest {
 
     /** A page must be right as what it is told to be, wherever it is told. */
     private static void badAtAsKind() {
-        DesignPages x = three();
+        DesignPages x = Stores.three();
         Image.force(x, 9, Image.node(0, 5, 8, 6, 11));
         due(13, "a node told as a thing", x.badAt(), 11);
         Image.force(x, 9, Image.node(0, 5, 8, 6, 8));
@@ -970,14 +916,14 @@ public final class PromisesTest {
         due(13, "a thing told as a node", x.badAt(), 10);
         due(13, "13 and 12 are free then", x.count(2), 8);
 
-        DesignPages y = three();
+        DesignPages y = Stores.three();
         Image.force(y, 9, Image.node(0, 5, 9));
         due(13, "a node that tells itself", y.badAt(), 9);
         due(13, "8 is free then", y.count(2), 7);
 
         // Told as a thing first, as a node later: it tells its things all the same.
         DesignPages z = new DesignPages(20);
-        put(z, 5, 1);
+        Stores.put(z, 5, 1);
         Image.force(z, 9, Image.node(0, 5, 8, 6, 12));
         Image.force(z, 12, Image.node(1, 0, 14));
         Image.force(z, 14, Image.thing(32, 1));
@@ -992,7 +938,7 @@ public final class PromisesTest {
     private static void bytesBehindThePlaces() {
         for (int b = 1; b < 256; b += 127) {
             DesignPages x = new DesignPages(20);
-            put(x, 5, 1);
+            Stores.put(x, 5, 1);
             Image.force(x, 9, Image.with(Image.node(0, 5, 8), 34, b));
             Image.force(x, 1, Image.with(Image.root(1, 1, 0, 9), 41, b));
             due(13, "nothing is bad with " + b, x.badAt(), NONE);
@@ -1002,7 +948,7 @@ public final class PromisesTest {
             due(8, "of the last node with " + b, x.next(1, 1023), NONE);
         }
         DesignPages y = new DesignPages(20);
-        put(y, 5, 1);
+        Stores.put(y, 5, 1);
         Image.force(y, 9, Image.with(Image.node(0, 5, 8), 34, 10));
         Image.force(y, 1, Image.with(Image.root(1, 1, 0, 9), 41, 11));
         due(13, "pages that are there are not told so", y.badAt(), NONE);
@@ -1017,9 +963,9 @@ public final class PromisesTest {
         for (int what : wrong) {
             due(14, "what " + what, x.count(what), OUTSIDE);
         }
-        put(x, 5, 1);
-        put(x, 6, 2);
-        put(x, 1023, 3);
+        Stores.put(x, 5, 1);
+        Stores.put(x, 6, 2);
+        Stores.put(x, 1023, 3);
         x.type(4);
         x.type(4);
         due(14, "newest", x.count(0), 3);
@@ -1053,7 +999,7 @@ public final class PromisesTest {
     }
 
     private static void countOfDamaged() {
-        DesignPages x = three();
+        DesignPages x = Stores.three();
         x.put(41);
         due(14, "keys", x.count(3), 4);
         x.poke(15, 3, 1);
@@ -1187,14 +1133,14 @@ public final class PromisesTest {
     }
 
     private static void nodeIs(String what, int[] image, int length) {
-        DesignPages x = three();
+        DesignPages x = Stores.three();
         Image.force(x, 9, image);
         due(6, "node with " + what, x.length(3, 5), length);
         due(8, "node with " + what, x.next(3, 5), length == DAMAGED ? DAMAGED : 5);
     }
 
     private static void thingIs(String what, int[] image, int length) {
-        DesignPages x = three();
+        DesignPages x = Stores.three();
         Image.force(x, 8, image);
         due(6, "thing with " + what, x.length(3, 5), length);
         due(13, "thing with " + what, x.badAt(), length == DAMAGED ? 8 : NONE);
