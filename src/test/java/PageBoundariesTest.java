@@ -435,6 +435,26 @@ public final class PageBoundariesTest {
         Image.force(x, 4, Image.with(Image.root(4, 1, 0, 9, 1, 11, 31, 14), 41, 9));
         Check.due("a page behind the places of nodes", x.next(4, 41), NONE);
         Check.due("a page behind the places of nodes, count()", x.count(3), 2);
+        rootOfAnotherVersion();
+    }
+
+    /** Two pokes are enough to come there: the root of version 9 stands where version 1 is asked. */
+    private static void rootOfAnotherVersion() {
+        DesignPages x = Stores.upTo(9);
+        x.poke(1, 20, 1);
+        Check.due("root 9 is not right: reopen()", x.reopen(), 8);
+        Check.due("root 9 is not right: OLDEST", x.count(1), 1);
+        Check.due("root 9 is not right: find()", x.find(1, 7, 0), DAMAGED);
+        Check.due("root 9 is not right: badAt()", x.badAt(), 1);
+        Check.due("root 9 is not right: free pages", x.count(2), 32 - 14);
+        x.poke(1, 20, 1);
+        Check.due("root 9 for version 1: find()", x.find(1, 7, 0), 9);
+        Check.due("root 9 for version 1: badAt()", x.badAt(), NONE);
+        Check.due("root 9 for version 1: free pages", x.count(2), 32 - 16);
+        Check.due("root 9 for version 1: version 9 is not kept", x.length(9, 7), OUTSIDE);
+        Check.due("root 9 for version 1: put()", Stores.put(x, 7), 9);
+        Check.due("root 9 for version 1: OLDEST behind put()", x.count(1), 2);
+        Check.due("root 9 for version 1: length() behind put()", x.length(9, 7), 0);
     }
 
     /** Whether a page is right as a root, by what is opened. */
